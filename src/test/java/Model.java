@@ -212,7 +212,7 @@ final class Model {
         return Math.floorDiv(leastNotBelow(x, y) + greatestNotAbove(x, y), 2L);
     }
 
-    /** By halves: TablesTest looks at every neighbouring pair, so the halves may be trusted. */
+    /** By halves: ModelTest looks at every neighbouring pair, so the halves may be trusted. */
     private static long leastNotBelow(long x, long y) {
         int low = 0;
         int high = QUARTER;

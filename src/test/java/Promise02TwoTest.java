@@ -168,6 +168,10 @@ final class Promise02TwoTest {
         due.two(6, 2, 1, 2, MAX, 2, 28);
         due.two(6, 2, -1, 2, MAX, 2, 360 * ONE - 28);
         due.two(6, 2, MAX, 2, 1, 2, 90 * ONE - 29);
+        // Along many angles x sin - y cos comes to one unit of units, or to one below 0, and not to 0.
+        due.two(6, 2, 2, 2, 1, 2, 4157280);
+        due.two(6, 2, 5, 2, 1, 2, 5157028);
+        due.two(6, 2, 1, 2, 2, 2, 1740959);
         due.two(6, 1, 32767, 2, 0, 2, 90 * ONE);
         due.twoRefused(6, 1, 32768, 1, 1, RANGE);
         due.twoRefused(6, 1, 1, 1, -32768, RANGE);
