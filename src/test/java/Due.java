@@ -9,17 +9,21 @@ final class Due {
     }
 
     void equal(String call, long got, long want) {
+        same(call, got, want);
+    }
+
+    void equal(String call, boolean got, boolean want) {
+        equal(call, got ? 1 : 0, want ? 1 : 0);
+    }
+
+    void same(String call, Object got, Object want) {
         asked++;
-        if (got != want) {
+        if (!got.equals(want)) {
             wrong++;
             if (wrong <= 20) {
                 System.out.println(test + ": " + call + " answered " + got + ", due is " + want);
             }
         }
-    }
-
-    void equal(String call, boolean got, boolean want) {
-        equal(call, got ? 1 : 0, want ? 1 : 0);
     }
 
     /** THE RESULT of an object: its kind and its number. */
