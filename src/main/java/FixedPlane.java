@@ -10,6 +10,11 @@ public final class FixedPlane {
 
     private static final int DONE = 1;
 
+    // What compare() answers.
+    private static final int BELOW = 0;
+    private static final int SAME = 1;
+    private static final int ABOVE = 2;
+
     private static final int WHOLE = 1;
     private static final int REAL = 2;
 
@@ -134,7 +139,12 @@ public final class FixedPlane {
         if (!isValue(kindA, a) || !isValue(kindB, b)) {
             return BAD;
         }
-        return Long.compare(units(kindA, a), units(kindB, b)) + 1;
+        long unitsA = units(kindA, a);
+        long unitsB = units(kindB, b);
+        if (unitsA == unitsB) {
+            return SAME;
+        }
+        return unitsA < unitsB ? BELOW : ABOVE;
     }
 
     public boolean matrix(int a, int b, int c, int d, int e, int f) {
@@ -358,7 +368,7 @@ public final class FixedPlane {
         if (rounded < -FIRST_WHOLE_BEYOND_REALS || rounded >= FIRST_WHOLE_BEYOND_REALS) {
             return BEYOND_REALS;
         }
-        long left = parted - rounded * size;
+        long left = Math.floorMod(parted, size);
         for (int place = 0; place < PLACES; place++) {
             // What is left, doubled, may pass 63 bits: it is compared with what it lacks.
             long lacking = size - left;

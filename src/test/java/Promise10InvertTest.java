@@ -88,5 +88,8 @@ final class Promise10InvertTest {
         inverse(with(MAX, MAX, -MAX, MAX, MAX, MAX), "the greatest D", 1, -1, 1, 1, -ONE, 0);
         inverse(with(MAX, -MAX, -MAX, -MAX, MAX, MAX), "the least D", 1, -1, -1, -1, 0, ONE);
         inverse(with(MAX, MAX, -MAX, MAX, -MAX, MAX), "the greatest D, f", 1, -1, 1, 1, 0, -ONE);
+        // c f - d e is four thirds of D below 0: twice D would pass 63 bits.
+        inverse(with(MAX, -(1 << 30), MAX, MAX, MAX, -MAX), "four thirds", 1, 1, -1, 1, -87381, 21845);
+        inverse(with(-MAX, -(1 << 30), MAX, -MAX, -MAX, -MAX), "four thirds, too", -1, 1, -1, -1, -87381, -21845);
     }
 }
